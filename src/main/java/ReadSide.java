@@ -654,7 +654,7 @@ public final class ReadSide {
                 case HELD_BY: return heldBy(a);
                 case REFUSALS_OF: return refusals[a];
                 case RANKED_ITEM: return itemRanked(a);
-                default: return a == ALL_PARTITIONS ? worth(0, 1) : worth(a, partitions);
+                default: return worth(a, partitions);
             }
         }
 
@@ -680,10 +680,12 @@ public final class ReadSide {
             return rank;
         }
 
-        long worth(int firstItem, int stride) {
+        long worth(int partition, int partitions) {
             long worth = 0;
-            for (int item = firstItem; item < ITEMS; item += stride) {
-                worth += (long) stock[item] * price[item];
+            for (int item = 0; item < ITEMS; item++) {
+                if (partition == ALL_PARTITIONS || item % partitions == partition) {
+                    worth += (long) stock[item] * price[item];
+                }
             }
             return worth;
         }

@@ -1,3 +1,4 @@
+import java.lang.reflect.Field;
 import java.lang.reflect.Method;
 import java.lang.reflect.Modifier;
 import java.util.Arrays;
@@ -86,7 +87,7 @@ public final class NewObjectTest {
             seen.add(method.getName());
         }
         Check.note(seen.containsAll(FACE), "the face lacks a method: " + seen);
-        for (java.lang.reflect.Field field : ReadSide.class.getDeclaredFields()) {
+        for (Field field : ReadSide.class.getDeclaredFields()) {
             boolean constant = Arrays.asList("WAITS", "DONE", "FAILED").contains(field.getName());
             Check.same(field + " is public", Modifier.isPublic(field.getModifiers()), constant);
             Check.note(constant || Modifier.isPrivate(field.getModifiers()), field + " can be seen from outside");

@@ -50,7 +50,7 @@ public final class ValuesTest {
         take(x, RECEIVE, 29, 0, 1);
         hasItem("100001 is above again", x, 29, 100000);
         take(x, PRICE, 29, 0, 1000);
-        Check.same("worth beyond 31 bits is near", x.value(0, 8, -1), 100000000L);
+        Check.same("worth at the highest price", x.value(0, 8, -1), 100000000L);
     }
 
     private static void reserveAndRefusals() {
@@ -91,19 +91,19 @@ public final class ValuesTest {
 
     private static void releaseGivesBack() {
         ReadSide x = new ReadSide(1, 1);
-        take(x, RECEIVE, 0, 0, 100);
-        take(x, RESERVE, 0, 1, 30);
-        take(x, RESERVE, 0, 2, 40);
-        take(x, RELEASE, 0, 1, 10);
-        hasItem("10 of 30", x, 0, 100, 60, 0, 1);
+        take(x, RECEIVE, 6, 0, 100);
+        take(x, RESERVE, 6, 1, 30);
+        take(x, RESERVE, 6, 2, 40);
+        take(x, RELEASE, 6, 1, 10);
+        hasItem("10 of 30", x, 6, 100, 60, 0, 1);
         hasCustomer("10 of 30", x, 1, 0, 20, 0);
-        take(x, RELEASE, 0, 1, 21);
-        hasItem("all, as 21 is more", x, 0, 100, 40, 0, 1);
+        take(x, RELEASE, 6, 1, 21);
+        hasItem("all, as 21 is more", x, 6, 100, 40, 0, 1);
         hasCustomer("all, as 21 is more", x, 1, 0, 0, 0);
-        take(x, RELEASE, 0, 1, 5);
-        hasItem("none held", x, 0, 100, 40, 0, 1);
-        take(x, RELEASE, 0, 2, 40);
-        hasItem("just all", x, 0, 100, 0, 0, 1);
+        take(x, RELEASE, 6, 1, 5);
+        hasItem("none held", x, 6, 100, 40, 0, 1);
+        take(x, RELEASE, 6, 2, 40);
+        hasItem("just all", x, 6, 100, 0, 0, 1);
     }
 
     private static void holdsAreOfCustomerAndItem() {
@@ -156,28 +156,28 @@ public final class ValuesTest {
     private static void snapshotsKeepAllOfAState() {
         ReadSide x = new ReadSide(1, 1);
         take(x, RECEIVE, 4, 0, 50);
-        take(x, RESERVE, 4, 1, 20);
-        take(x, SHIP, 4, 1, 5);
-        take(x, PRICE, 4, 1, 3);
-        take(x, RESERVE, 4, 1, 100);
+        take(x, RESERVE, 4, 9, 20);
+        take(x, SHIP, 4, 9, 5);
+        take(x, PRICE, 4, 9, 3);
+        take(x, RESERVE, 4, 9, 100);
         x.snapshot(0);
-        take(x, PRICE, 4, 1, 9);
-        take(x, RESERVE, 4, 1, 10);
-        take(x, SHIP, 4, 1, 25);
-        take(x, RESERVE, 4, 1, 100);
-        take(x, RECEIVE, 4, 1, 1);
+        take(x, PRICE, 4, 9, 9);
+        take(x, RESERVE, 4, 9, 10);
+        take(x, SHIP, 4, 9, 25);
+        take(x, RESERVE, 4, 9, 100);
+        take(x, RECEIVE, 4, 9, 1);
         hasItem("before the crash", x, 4, 21, 0, 30, 9);
-        hasCustomer("before the crash", x, 1, 230, 0, 2);
+        hasCustomer("before the crash", x, 9, 230, 0, 2);
         x.crash(0);
         hasItem("as kept", x, 4, 45, 15, 5, 3);
-        hasCustomer("as kept", x, 1, 5, 15, 1);
+        hasCustomer("as kept", x, 9, 5, 15, 1);
         x.step(0, 0);
         x.crash(0);
         hasItem("as kept, once more", x, 4, 45, 15, 5, 3);
         x.speed(0, 10);
         x.ticks(1);
         hasItem("taken again", x, 4, 21, 0, 30, 9);
-        hasCustomer("taken again", x, 1, 230, 0, 2);
+        hasCustomer("taken again", x, 9, 230, 0, 2);
     }
 
     private static void downReplicasHaveValues() {
