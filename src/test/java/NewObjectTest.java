@@ -82,7 +82,8 @@ public final class NewObjectTest {
         TreeSet<String> seen = new TreeSet<>();
         for (Method method : ReadSide.class.getDeclaredMethods()) {
             boolean isPublic = Modifier.isPublic(method.getModifiers());
-            Check.note(isPublic || Modifier.isPrivate(method.getModifiers()), method + " is neither public nor private");
+            boolean isPrivate = Modifier.isPrivate(method.getModifiers());
+            Check.note(isPublic || isPrivate, method + " is neither public nor private");
             Check.note(isPublic == FACE.contains(method.getName()), method + " bears a name that is not its to bear");
             seen.add(method.getName());
         }

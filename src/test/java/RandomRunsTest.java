@@ -1,7 +1,4 @@
-import java.lang.reflect.InvocationTargetException;
-import java.lang.reflect.Method;
 import java.util.ArrayList;
-import java.util.Arrays;
 import java.util.List;
 import java.util.Random;
 
@@ -46,11 +43,11 @@ public final class RandomRunsTest {
         for (int i = 0; i < CALLS; i++) {
             boolean question = random.nextInt(10) < questionsOfTen;
             String name = question ? pick(QUESTIONS) : pick(CHANGES);
-            long[] with = arguments(name);
-            String got = answerOf(side, name, with);
-            String due = answerOf(model, name, with);
-            String call = "seed " + seed + ", call " + i + ": " + name + Arrays.toString(with);
-            Check.note(got.equals(due), call + " answered " + got + ", due is " + due);
+            FaceCall call = new FaceCall(name, arguments(name));
+            String got = call.on(side);
+            String due = call.on(model);
+            Check.note(got.equals(due),
+                "seed " + seed + ", call " + i + ": " + call + " answered " + got + ", due is " + due);
             if (!got.equals(due)) {
                 return false;
             }
@@ -135,39 +132,6 @@ public final class RandomRunsTest {
             case "session": return new long[] {session(), number(0, 1), partition()};
             case "told": return new long[] {token(), partition()};
             default: return new long[] {number(0, 4)};
-        }
-    }
-
-    private static Method methodOf(Object target, String name, int parameters) {
-        for (Method method : target.getClass().getDeclaredMethods()) {
-            if (method.getName().equals(name) && method.getParameterCount() == parameters) {
-                return method;
-            }
-        }
-        throw new AssertionError("no method " + name);
-    }
-
-    /** A boolean counts 1 or 0, as an argument and as an answer. */
-    private static String answerOf(Object target, String name, long[] with) {
-        Method method = methodOf(target, name, with.length);
-        Object[] arguments = new Object[with.length];
-        for (int i = 0; i < with.length; i++) {
-            Class<?> type = method.getParameterTypes()[i];
-            if (type == boolean.class) {
-                arguments[i] = with[i] == 1;
-            } else if (type == long.class) {
-                arguments[i] = with[i];
-            } else {
-                arguments[i] = (int) with[i];
-            }
-        }
-        try {
-            Object answer = method.invoke(target, arguments);
-            return answer instanceof Boolean is ? (is ? "1" : "0") : answer.toString();
-        } catch (InvocationTargetException thrown) {
-            return "throws." + thrown.getCause().getClass().getName();
-        } catch (IllegalAccessException closed) {
-            throw new AssertionError(closed);
         }
     }
 }

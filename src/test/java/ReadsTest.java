@@ -20,18 +20,6 @@ public final class ReadsTest {
         Check.end();
     }
 
-    private static void hasRead(String when, ReadSide x, int read, long... due) {
-        for (int what = 0; what < due.length; what++) {
-            Check.same(when + ": read(" + read + ", " + what + ")", x.read(read, what), due[what]);
-        }
-    }
-
-    private static void hasCounts(String when, ReadSide x, int... due) {
-        for (int what = 0; what < due.length; what++) {
-            Check.same(when + ": count(" + what + ")", x.count(what), due[what]);
-        }
-    }
-
     private static void answeredAtOnce() {
         ReadSide x = new ReadSide(3, 2);
         x.command(0, 0, 0, 0, 5);
@@ -40,8 +28,8 @@ public final class ReadsTest {
         x.step(0, 2);
         x.ticks(4);
         Check.same("ask", x.ask(6, 0, -1, 0, 0, 2), 0);
-        hasRead("at once", x, 0, ReadSide.DONE, 0, 6, Tokens.of(1, 0, 1), 4, 6);
-        hasCounts("at once", x, 1, 0, 1, 0, 4);
+        Look.read("at once", x, 0, ReadSide.DONE, 0, 6, Tokens.of(1, 0, 1), 4, 6);
+        Look.counts("at once", x, 1, 0, 1, 0, 4);
     }
 
     private static void failedAtOnce() {
@@ -50,8 +38,8 @@ public final class ReadsTest {
         x.up(0, false);
         x.up(1, false);
         Check.same("ask", x.ask(1, 0, -1, 0, 0, 0), 0);
-        hasRead("none is up", x, 0, ReadSide.FAILED, -1, 0, 0, 7, 1);
-        hasCounts("none is up", x, 1, 0, 0, 1, 7);
+        Look.read("none is up", x, 0, ReadSide.FAILED, -1, 0, 0, 7, 1);
+        Look.counts("none is up", x, 1, 0, 0, 1, 7);
     }
 
     private static void tokensAreWaitedFor() {
@@ -60,16 +48,16 @@ public final class ReadsTest {
         x.command(0, 0, 1, 0, 6);
         long token = Tokens.of(1, 1, 0);
         Check.same("ask", x.ask(3, token, -1, 1, 0, 0), 0);
-        hasRead("none has it", x, 0, ReadSide.WAITS, -1, 0, 0, -1, 3);
-        hasCounts("none has it", x, 1, 1, 0, 0, 0);
+        Look.read("none has it", x, 0, ReadSide.WAITS, -1, 0, 0, -1, 3);
+        Look.counts("none has it", x, 1, 1, 0, 0, 0);
         x.step(0, 0);
         x.step(1, 1);
         Check.same("each has a part", x.read(0, 0), ReadSide.WAITS);
         x.step(1, 0);
-        hasRead("replica 1 has all", x, 0, ReadSide.DONE, 1, 5, token, 0, 3);
-        hasCounts("replica 1 has all", x, 1, 0, 1, 0, 0);
+        Look.read("replica 1 has all", x, 0, ReadSide.DONE, 1, 5, token, 0, 3);
+        Look.counts("replica 1 has all", x, 1, 0, 1, 0, 0);
         x.step(0, 1);
-        hasRead("an answer stays", x, 0, ReadSide.DONE, 1, 5, token, 0, 3);
+        Look.read("an answer stays", x, 0, ReadSide.DONE, 1, 5, token, 0, 3);
     }
 
     private static void staleBounds() {
@@ -92,7 +80,7 @@ public final class ReadsTest {
         x.step(0, 1);
         Check.same("behind the log's end of then", x.read(4, 0), ReadSide.WAITS);
         x.step(0, 0);
-        hasRead("bound 0", x, 4, ReadSide.DONE, 0, 15, Tokens.of(1, 3, 0), 0, 0);
+        Look.read("bound 0", x, 4, ReadSide.DONE, 0, 15, Tokens.of(1, 3, 0), 0, 0);
     }
 
     private static void modesAreWaitedFor() {
@@ -127,7 +115,7 @@ public final class ReadsTest {
         x.step(0, 0);
         Check.same("the later write counts, too", x.read(0, 0), ReadSide.WAITS);
         x.step(0, 0);
-        hasRead("both", x, 0, ReadSide.DONE, 0, 2, Tokens.of(2, 0, 0));
+        Look.read("both", x, 0, ReadSide.DONE, 0, 2, Tokens.of(2, 0, 0));
     }
 
     private static void patienceEnds() {
@@ -138,20 +126,20 @@ public final class ReadsTest {
         x.ask(0, 0, -1, 1, 0, 0);
         x.ask(0, 0, -1, 1000, 0, 0);
         x.ticks(1);
-        hasRead("1 tick, patience 2", x, 0, ReadSide.WAITS, -1, 0, 0, -1, 0);
-        hasRead("1 tick, patience 1", x, 1, ReadSide.FAILED, -1, 0, 0, 11, 0);
-        hasCounts("1 tick", x, 3, 2, 0, 1, 11);
+        Look.read("1 tick, patience 2", x, 0, ReadSide.WAITS, -1, 0, 0, -1, 0);
+        Look.read("1 tick, patience 1", x, 1, ReadSide.FAILED, -1, 0, 0, 11, 0);
+        Look.counts("1 tick", x, 3, 2, 0, 1, 11);
         x.ticks(3);
-        hasRead("patience 2", x, 0, ReadSide.FAILED, -1, 0, 0, 12, 0);
+        Look.read("patience 2", x, 0, ReadSide.FAILED, -1, 0, 0, 12, 0);
         for (int i = 0; i < 9; i++) {
             x.ticks(100);
         }
         x.ticks(95);
-        hasRead("999 ticks", x, 2, ReadSide.WAITS, -1, 0, 0, -1, 0);
+        Look.read("999 ticks", x, 2, ReadSide.WAITS, -1, 0, 0, -1, 0);
         x.ticks(1);
-        hasRead("1000 ticks", x, 2, ReadSide.FAILED, -1, 0, 0, 1010, 0);
+        Look.read("1000 ticks", x, 2, ReadSide.FAILED, -1, 0, 0, 1010, 0);
         x.up(0, true);
-        hasCounts("all failed for good", x, 3, 0, 0, 3, 1010);
+        Look.counts("all failed for good", x, 3, 0, 0, 3, 1010);
     }
 
     private static void answeredInTheTickOfItsEnd() {
@@ -160,7 +148,7 @@ public final class ReadsTest {
         x.ask(0, token, -1, 1, 0, 0);
         x.speed(0, 1);
         x.ticks(1);
-        hasRead("steps go before the end", x, 0, ReadSide.DONE, 0, 4, token, 1, 0);
+        Look.read("steps go before the end", x, 0, ReadSide.DONE, 0, 4, token, 1, 0);
     }
 
     private static void comingUpAnswers() {
@@ -176,7 +164,7 @@ public final class ReadsTest {
         Check.same("none is up", x.read(0, 0), ReadSide.WAITS);
         x.ticks(3);
         x.up(2, true);
-        hasRead("2 came up", x, 0, ReadSide.DONE, 2, 0, 0, 3, 0);
+        Look.read("2 came up", x, 0, ReadSide.DONE, 2, 0, 0, 3, 0);
     }
 
     private static void readsAreAnsweredInTheirOrder() {
@@ -190,11 +178,11 @@ public final class ReadsTest {
         Check.same("first one waits", x.read(0, 0), ReadSide.WAITS);
         Check.same("second one is answered", x.read(1, 0), ReadSide.DONE);
         Check.same("third one waits", x.read(2, 0), ReadSide.WAITS);
-        hasCounts("one of three", x, 3, 2, 1, 0, 0);
+        Look.counts("one of three", x, 3, 2, 1, 0, 0);
         x.step(0, 0);
-        hasRead("the first", x, 0, ReadSide.DONE, 0, 8);
-        hasRead("the second keeps its answer", x, 1, ReadSide.DONE, 0, 4, Tokens.of(1, 0, 0));
-        hasRead("the third", x, 2, ReadSide.DONE, 0, 8);
+        Look.read("the first", x, 0, ReadSide.DONE, 0, 8);
+        Look.read("the second keeps its answer", x, 1, ReadSide.DONE, 0, 4, Tokens.of(1, 0, 0));
+        Look.read("the third", x, 2, ReadSide.DONE, 0, 8);
     }
 
     private static void earlierAnswersCount() {
@@ -207,12 +195,12 @@ public final class ReadsTest {
         x.step(1, 1);
         x.ask(0, Tokens.of(1, 0, 0), -1, 9, 0, 0);
         x.ask(0, Tokens.of(0, 1, 0), -1, 9, 0, 1);
-        hasCounts("neither replica has what it wrote", x, 2, 2, 0, 0, 0);
+        Look.counts("neither replica has what it wrote", x, 2, 2, 0, 0, 0);
         x.mode(0, 2);
-        hasRead("0 answers the first one", x, 0, ReadSide.DONE, 0, 1, Tokens.of(1, 0, 0), 0, 0);
+        Look.read("0 answers the first one", x, 0, ReadSide.DONE, 0, 1, Tokens.of(1, 0, 0), 0, 0);
         Check.same("1 lacks what the first one saw", x.read(1, 0), ReadSide.WAITS);
         x.step(1, 0);
-        hasRead("1 has both", x, 1, ReadSide.DONE, 1, 1, Tokens.of(1, 1, 0), 0, 0);
+        Look.read("1 has both", x, 1, ReadSide.DONE, 1, 1, Tokens.of(1, 1, 0), 0, 0);
         Check.same("SAW at 0", x.session(0, 1, 0), 1);
         Check.same("SAW at 1", x.session(0, 1, 1), 1);
     }
@@ -259,7 +247,7 @@ public final class ReadsTest {
         Check.notAsTold("patience -1", () -> x.ask(0, 0, -1, -1, 0, 0));
         Check.notAsTold("patience 1001", () -> x.ask(0, 0, -1, 1001, 0, 0));
         Check.noSuch("question and token: the first one named", () -> x.ask(0, 1, -2, -1, 9, 0));
-        hasCounts("behind refused ones", x, 0, 0, 0, 0, 0);
+        Look.counts("behind refused ones", x, 0, 0, 0, 0, 0);
         Check.same("the first number is still 0", x.ask(0, 0, 400, 1000, 0, 0), 0);
     }
 
@@ -269,20 +257,20 @@ public final class ReadsTest {
         for (int read = 0; read < 40; read++) {
             Check.same("ask " + read, x.ask(read % 8, token, -1, 5, 0, 0), read);
         }
-        hasCounts("40 wait", x, 40, 40, 0, 0, 0);
+        Look.counts("40 wait", x, 40, 40, 0, 0, 0);
         Check.notNow("one that would wait", () -> x.ask(0, token, -1, 5, 0, 0));
         Check.noSuch("of no session: the first one named", () -> x.ask(8, token, -1, 5, 0, 0));
         Check.notAsTold("of no token: the first one named", () -> x.ask(0, 5, -1, 5, 0, 0));
-        hasCounts("the refused one is none", x, 40, 40, 0, 0, 0);
+        Look.counts("the refused one is none", x, 40, 40, 0, 0, 0);
         Check.same("one that is answered at once", x.ask(0, 0, -1, 5, 0, 0), 40);
         Check.same("one that fails at once", x.ask(0, token, -1, 0, 0, 0), 41);
-        hasCounts("both are taken", x, 42, 40, 1, 1, 0);
+        Look.counts("both are taken", x, 42, 40, 1, 1, 0);
         x.step(1, 0);
-        hasCounts("all are answered", x, 42, 0, 41, 1, 0);
-        hasRead("the last that waited", x, 39, ReadSide.DONE, 1, 3, token, 0, 7);
+        Look.counts("all are answered", x, 42, 0, 41, 1, 0);
+        Look.read("the last that waited", x, 39, ReadSide.DONE, 1, 3, token, 0, 7);
         x.up(1, false);
         Check.same("another one waits", x.ask(0, token, -1, 5, 0, 0), 42);
-        hasCounts("one waits", x, 43, 1, 41, 1, 0);
+        Look.counts("one waits", x, 43, 1, 41, 1, 0);
     }
 
     private static void fiveHundredReads() {
@@ -293,7 +281,7 @@ public final class ReadsTest {
         Check.notNow("ask 500", () -> x.ask(0, 0, -1, 0, 0, 0));
         Check.noSuch("of no session: the first one named", () -> x.ask(8, 0, -1, 0, 0, 0));
         Check.notAsTold("with no stale: the first one named", () -> x.ask(0, 0, -2, 0, 0, 0));
-        hasCounts("500", x, 500, 0, 500, 0, 0);
+        Look.counts("500", x, 500, 0, 500, 0, 0);
         Check.same("read(499, 0)", x.read(499, 0), ReadSide.DONE);
         Check.noSuch("read(500, 0)", () -> x.read(500, 0));
     }

@@ -27,20 +27,14 @@ public final class ReplicasTest {
         }
     }
 
-    private static void isAt(String when, ReadSide x, int replica, int... due) {
-        for (int partition = 0; partition < due.length; partition++) {
-            Check.same(when + ": at(" + replica + ", " + partition + ")", x.at(replica, partition), due[partition]);
-        }
-    }
-
     private static void stepTakesTheNextCommand() {
         ReadSide x = new ReadSide(2, 2);
         commands(x, 0, 0, 1);
         Check.same("step(1, 0)", x.step(1, 0), 1);
         Check.same("step(1, 0) again", x.step(1, 0), 1);
         Check.same("step(1, 0), none left", x.step(1, 0), 0);
-        isAt("two steps", x, 1, 2, 0);
-        isAt("the other replica", x, 0, 0, 0);
+        Look.at("two steps", x, 1, 2, 0);
+        Look.at("the other replica", x, 0, 0, 0);
         Check.same("its state", x.value(1, 0, 0), 2);
         Check.same("the other one's state", x.value(0, 0, 0), 0);
         Check.same("no time goes by", x.count(4), 0);
@@ -52,12 +46,12 @@ public final class ReplicasTest {
         commands(x, 0, 1, 2);
         Check.same("partition 2 needs the others", x.step(0, 2), -1);
         Check.same("partition 1 needs 0", x.step(0, 1), -1);
-        isAt("blocked", x, 0, 0, 0, 0);
+        Look.at("blocked", x, 0, 0, 0, 0);
         Check.same("partition 0", x.step(0, 0), 1);
         Check.same("partition 2 still needs 1", x.step(0, 2), -1);
         Check.same("partition 1", x.step(0, 1), 1);
         Check.same("partition 2", x.step(0, 2), 1);
-        isAt("all taken", x, 0, 1, 1, 1);
+        Look.at("all taken", x, 0, 1, 1, 1);
     }
 
     private static void stepOfOneThatIsDown() {
@@ -66,7 +60,7 @@ public final class ReplicasTest {
         Check.same("down, none there", x.step(0, 0), -2);
         commands(x, 0);
         Check.same("down, one there", x.step(0, 0), -2);
-        isAt("down", x, 0, 0);
+        Look.at("down", x, 0, 0);
         x.up(0, true);
         Check.same("up again", x.step(0, 0), 1);
     }
@@ -102,11 +96,11 @@ public final class ReplicasTest {
         Check.same("ticks(0)", x.ticks(0), 0);
         Check.same("time behind ticks(0)", x.count(4), 0);
         Check.same("ticks(1)", x.ticks(1), 13);
-        isAt("speed 3", x, 0, 2, 1);
-        isAt("speed 0", x, 1, 0, 0);
-        isAt("speed 10", x, 2, 5, 5);
+        Look.at("speed 3", x, 0, 2, 1);
+        Look.at("speed 0", x, 1, 0, 0);
+        Look.at("speed 10", x, 2, 5, 5);
         Check.same("ticks(100)", x.ticks(100), 11);
-        isAt("all", x, 0, 5, 7);
+        Look.at("all", x, 0, 5, 7);
         Check.same("time", x.count(4), 101);
     }
 
@@ -115,14 +109,14 @@ public final class ReplicasTest {
         commands(x, 0, 0, 0, 1, 1, 1, 2, 2, 2);
         x.speed(0, 1);
         x.ticks(1);
-        isAt("tick 1", x, 0, 1, 0, 0);
+        Look.at("tick 1", x, 0, 1, 0, 0);
         x.ticks(1);
-        isAt("tick 2", x, 0, 1, 1, 0);
+        Look.at("tick 2", x, 0, 1, 1, 0);
         x.speed(0, 2);
         x.ticks(1);
-        isAt("tick 3", x, 0, 2, 1, 1);
+        Look.at("tick 3", x, 0, 2, 1, 1);
         x.ticks(1);
-        isAt("tick 4", x, 0, 2, 2, 2);
+        Look.at("tick 4", x, 0, 2, 2, 2);
     }
 
     private static void ticksGoOnBehindAStep() {
@@ -131,14 +125,14 @@ public final class ReplicasTest {
         x.speed(0, 1);
         x.step(0, 1);
         x.ticks(1);
-        isAt("behind the step at 1", x, 0, 0, 1, 1);
+        Look.at("behind the step at 1", x, 0, 0, 1, 1);
         x.step(0, 2);
         Check.same("a step that was not taken", x.step(0, 2), 0);
         x.ticks(1);
-        isAt("behind the step at 2", x, 0, 1, 1, 2);
+        Look.at("behind the step at 2", x, 0, 1, 1, 2);
         Check.same("no such step moves it", x.step(0, 2), 0);
         x.ticks(1);
-        isAt("behind the tick's step at 0", x, 0, 1, 2, 2);
+        Look.at("behind the tick's step at 0", x, 0, 1, 2, 2);
     }
 
     private static void ticksPassByBlockedOnes() {
@@ -147,15 +141,15 @@ public final class ReplicasTest {
         commands(x, 2, 1, 0);
         x.speed(0, 10);
         Check.same("each one frees the next within the tick", x.ticks(1), 3);
-        isAt("all", x, 0, 1, 1, 1);
+        Look.at("all", x, 0, 1, 1, 1);
         ReadSide y = new ReadSide(3, 1);
         y.mode(0, 8);
         commands(y, 2, 1, 0);
         y.speed(0, 1);
         y.ticks(1);
-        isAt("0 and 1 are passed by", y, 0, 0, 0, 1);
+        Look.at("0 and 1 are passed by", y, 0, 0, 0, 1);
         y.ticks(1);
-        isAt("0 is passed by", y, 0, 0, 1, 1);
+        Look.at("0 is passed by", y, 0, 0, 1, 1);
         Check.same("2 is passed by", y.ticks(1), 1);
         Check.same("none is left", y.ticks(5), 0);
     }
@@ -167,10 +161,10 @@ public final class ReplicasTest {
         Check.same("crash(0)", x.crash(0), 1);
         x.speed(0, 1);
         x.ticks(1);
-        isAt("behind the lost step at 0", x, 0, 0, 1, 0);
+        Look.at("behind the lost step at 0", x, 0, 0, 1, 0);
         x.crash(0);
         x.ticks(1);
-        isAt("behind the lost step at 1", x, 0, 0, 0, 1);
+        Look.at("behind the lost step at 1", x, 0, 0, 0, 1);
     }
 
     private static void ticksLeaveDownReplicasOut() {
@@ -180,8 +174,8 @@ public final class ReplicasTest {
         x.speed(1, 1);
         x.up(0, false);
         Check.same("one is down", x.ticks(1), 1);
-        isAt("down", x, 0, 0);
-        isAt("up", x, 1, 1);
+        Look.at("down", x, 0, 0);
+        Look.at("up", x, 1, 1);
     }
 
     private static void wrongTicksAreRefused() {
@@ -192,7 +186,7 @@ public final class ReplicasTest {
         Check.notAsTold("ticks(-1)", () -> x.ticks(-1));
         Check.notAsTold("ticks(min)", () -> x.ticks(Integer.MIN_VALUE));
         Check.same("time behind refused ones", x.count(4), 0);
-        isAt("refused ticks", x, 0, 0);
+        Look.at("refused ticks", x, 0, 0);
     }
 
     private static void upTellsWhetherItWas() {
@@ -221,7 +215,7 @@ public final class ReplicasTest {
         x.step(0, 1);
         Check.same("kept stays", x.kept(0, 0), 2);
         Check.same("crash(0)", x.crash(0), 2);
-        isAt("crashed", x, 0, 2, 1);
+        Look.at("crashed", x, 0, 2, 1);
         Check.same("stock of 0 as kept", x.value(0, 0, 0), 2);
         Check.same("stock of 1 as kept", x.value(0, 0, 1), 1);
         Check.same("crash(0) again", x.crash(0), 0);
@@ -230,7 +224,7 @@ public final class ReplicasTest {
         Check.same("crash(0) of one step", x.crash(0), 1);
         x.step(1, 0);
         Check.same("crash(1) without a snapshot", x.crash(1), 1);
-        isAt("as at first", x, 1, 0, 0);
+        Look.at("as at first", x, 1, 0, 0);
         Check.same("stock as at first", x.value(1, 0, 0), 0);
     }
 
@@ -266,7 +260,7 @@ public final class ReplicasTest {
         x.up(1, true);
         Check.same("a replica goes on behind what went", x.step(1, 0), 1);
         x.crash(1);
-        isAt("as kept", x, 1, 2, 1);
+        Look.at("as kept", x, 1, 2, 1);
         x.speed(1, 10);
         Check.same("and takes the rest", x.ticks(1), 2);
         x.snapshot(1);

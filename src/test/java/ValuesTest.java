@@ -22,18 +22,6 @@ public final class ValuesTest {
         Check.same("step", x.step(0, 0), 1);
     }
 
-    private static void hasItem(String when, ReadSide x, int item, long... due) {
-        for (int kind = 0; kind < due.length; kind++) {
-            Check.same(when + ": value(0, " + kind + ", " + item + ")", x.value(0, kind, item), due[kind]);
-        }
-    }
-
-    private static void hasCustomer(String when, ReadSide x, int customer, long... due) {
-        for (int i = 0; i < due.length; i++) {
-            Check.same(when + ": value(0, " + (4 + i) + ", " + customer + ")", x.value(0, 4 + i, customer), due[i]);
-        }
-    }
-
     private static void receiveHasALimit() {
         ReadSide x = new ReadSide(1, 1);
         for (int i = 0; i < 99; i++) {
@@ -42,13 +30,13 @@ public final class ValuesTest {
         x.command(0, RECEIVE, 29, 0, 999);
         x.speed(0, 10);
         x.ticks(10);
-        hasItem("99999", x, 29, 99999, 0, 0, 1);
+        Look.item("99999", x, 29, 99999, 0, 0, 1);
         take(x, RECEIVE, 29, 0, 2);
-        hasItem("100001 is above", x, 29, 99999);
+        Look.item("100001 is above", x, 29, 99999);
         take(x, RECEIVE, 29, 0, 1);
-        hasItem("100000 is not", x, 29, 100000);
+        Look.item("100000 is not", x, 29, 100000);
         take(x, RECEIVE, 29, 0, 1);
-        hasItem("100001 is above again", x, 29, 100000);
+        Look.item("100001 is above again", x, 29, 100000);
         take(x, PRICE, 29, 0, 1000);
         Check.same("worth at the highest price", x.value(0, 8, -1), 100000000L);
     }
@@ -57,15 +45,15 @@ public final class ValuesTest {
         ReadSide x = new ReadSide(1, 1);
         take(x, RECEIVE, 3, 0, 10);
         take(x, RESERVE, 3, 9, 11);
-        hasItem("refused", x, 3, 10, 0, 0, 1);
-        hasCustomer("refused", x, 9, 0, 0, 1);
+        Look.item("refused", x, 3, 10, 0, 0, 1);
+        Look.customer("refused", x, 9, 0, 0, 1);
         take(x, RESERVE, 3, 9, 10);
-        hasItem("all reserved", x, 3, 10, 10, 0, 1);
-        hasCustomer("all reserved", x, 9, 0, 10, 1);
+        Look.item("all reserved", x, 3, 10, 10, 0, 1);
+        Look.customer("all reserved", x, 9, 0, 10, 1);
         take(x, RESERVE, 3, 8, 1);
-        hasCustomer("none is left", x, 8, 0, 0, 1);
-        hasCustomer("the other one", x, 9, 0, 10, 1);
-        hasItem("none is left", x, 3, 10, 10, 0, 1);
+        Look.customer("none is left", x, 8, 0, 0, 1);
+        Look.customer("the other one", x, 9, 0, 10, 1);
+        Look.item("none is left", x, 3, 10, 10, 0, 1);
     }
 
     private static void shipAndPay() {
@@ -73,20 +61,20 @@ public final class ValuesTest {
         take(x, RECEIVE, 0, 0, 100);
         take(x, RESERVE, 0, 1, 30);
         take(x, SHIP, 0, 1, 31);
-        hasItem("more than held", x, 0, 100, 30, 0, 1);
-        hasCustomer("more than held", x, 1, 0, 30, 0);
+        Look.item("more than held", x, 0, 100, 30, 0, 1);
+        Look.customer("more than held", x, 1, 0, 30, 0);
         take(x, SHIP, 0, 2, 1);
-        hasItem("of one who holds none", x, 0, 100, 30, 0, 1);
+        Look.item("of one who holds none", x, 0, 100, 30, 0, 1);
         take(x, SHIP, 0, 1, 10);
-        hasItem("10 at 1", x, 0, 90, 20, 10, 1);
-        hasCustomer("10 at 1", x, 1, 10, 20, 0);
+        Look.item("10 at 1", x, 0, 90, 20, 10, 1);
+        Look.customer("10 at 1", x, 1, 10, 20, 0);
         take(x, PRICE, 0, 2, 1000);
-        hasItem("the price", x, 0, 90, 20, 10, 1000);
-        hasCustomer("the price", x, 1, 10, 20, 0);
+        Look.item("the price", x, 0, 90, 20, 10, 1000);
+        Look.customer("the price", x, 1, 10, 20, 0);
         take(x, SHIP, 0, 1, 20);
-        hasItem("20 at 1000", x, 0, 70, 0, 30, 1000);
-        hasCustomer("20 at 1000", x, 1, 20010, 0, 0);
-        hasCustomer("one who did nothing", x, 2, 0, 0, 0);
+        Look.item("20 at 1000", x, 0, 70, 0, 30, 1000);
+        Look.customer("20 at 1000", x, 1, 20010, 0, 0);
+        Look.customer("one who did nothing", x, 2, 0, 0, 0);
     }
 
     private static void releaseGivesBack() {
@@ -95,15 +83,15 @@ public final class ValuesTest {
         take(x, RESERVE, 6, 1, 30);
         take(x, RESERVE, 6, 2, 40);
         take(x, RELEASE, 6, 1, 10);
-        hasItem("10 of 30", x, 6, 100, 60, 0, 1);
-        hasCustomer("10 of 30", x, 1, 0, 20, 0);
+        Look.item("10 of 30", x, 6, 100, 60, 0, 1);
+        Look.customer("10 of 30", x, 1, 0, 20, 0);
         take(x, RELEASE, 6, 1, 21);
-        hasItem("all, as 21 is more", x, 6, 100, 40, 0, 1);
-        hasCustomer("all, as 21 is more", x, 1, 0, 0, 0);
+        Look.item("all, as 21 is more", x, 6, 100, 40, 0, 1);
+        Look.customer("all, as 21 is more", x, 1, 0, 0, 0);
         take(x, RELEASE, 6, 1, 5);
-        hasItem("none held", x, 6, 100, 40, 0, 1);
+        Look.item("none held", x, 6, 100, 40, 0, 1);
         take(x, RELEASE, 6, 2, 40);
-        hasItem("just all", x, 6, 100, 0, 0, 1);
+        Look.item("just all", x, 6, 100, 0, 0, 1);
     }
 
     private static void holdsAreOfCustomerAndItem() {
@@ -113,12 +101,12 @@ public final class ValuesTest {
         take(x, RESERVE, 0, 5, 7);
         take(x, RESERVE, 29, 5, 8);
         take(x, RESERVE, 29, 4, 9);
-        hasCustomer("of two items", x, 5, 0, 15, 0);
-        hasCustomer("of one", x, 4, 0, 9, 0);
+        Look.customer("of two items", x, 5, 0, 15, 0);
+        Look.customer("of one", x, 4, 0, 9, 0);
         take(x, SHIP, 0, 5, 8);
-        hasItem("8 of item 0 are not held", x, 0, 100, 7, 0, 1);
+        Look.item("8 of item 0 are not held", x, 0, 100, 7, 0, 1);
         take(x, SHIP, 29, 5, 8);
-        hasItem("8 of item 29 are", x, 29, 92, 9, 8, 1);
+        Look.item("8 of item 29 are", x, 29, 92, 9, 8, 1);
     }
 
     private static void itemsByWhatWasSold() {
@@ -166,18 +154,18 @@ public final class ValuesTest {
         take(x, SHIP, 4, 9, 25);
         take(x, RESERVE, 4, 9, 100);
         take(x, RECEIVE, 4, 9, 1);
-        hasItem("before the crash", x, 4, 21, 0, 30, 9);
-        hasCustomer("before the crash", x, 9, 230, 0, 2);
+        Look.item("before the crash", x, 4, 21, 0, 30, 9);
+        Look.customer("before the crash", x, 9, 230, 0, 2);
         x.crash(0);
-        hasItem("as kept", x, 4, 45, 15, 5, 3);
-        hasCustomer("as kept", x, 9, 5, 15, 1);
+        Look.item("as kept", x, 4, 45, 15, 5, 3);
+        Look.customer("as kept", x, 9, 5, 15, 1);
         x.step(0, 0);
         x.crash(0);
-        hasItem("as kept, once more", x, 4, 45, 15, 5, 3);
+        Look.item("as kept, once more", x, 4, 45, 15, 5, 3);
         x.speed(0, 10);
         x.ticks(1);
-        hasItem("taken again", x, 4, 21, 0, 30, 9);
-        hasCustomer("taken again", x, 9, 230, 0, 2);
+        Look.item("taken again", x, 4, 21, 0, 30, 9);
+        Look.customer("taken again", x, 9, 230, 0, 2);
     }
 
     private static void downReplicasHaveValues() {
