@@ -68,7 +68,7 @@ final class Shop {
         shop.then("command", 3, 3, 1, 1, 9).then("command", 4, 1, 2, 7, 1000);
         shop.then("ticks", 1).then("step", replicas - 1, 0).then("ask", 6, 0, -1, 0, 8, -1);
         shop.then("ask", 3, 0, 0, 0, 0, 0).then("ask", 1, 0, 0, 3, 4, 1).then("ask", 2, 0, 0, 90, 7, 0);
-        shop.then("ask", 0, 0, 1, 1, 5, 0).then("crash", 0);
+        shop.then("ask", 0, 0, 1, 1, 5, 0).then("crash", 0).then("step", 0, 0);
         return shop.then("up", replicas - 1, 0).then("ask", 7, 0, 0, 1000, 1, 3);
     }
 
