@@ -82,7 +82,7 @@ public final class ReadSide {
         needIndex(customer, CUSTOMERS);
         needNumber(kind, 0, COMMAND_KINDS - 1);
         needNumber(amount, 1, AMOUNT_MOST);
-        int partition = item % logs.length;
+        int partition = partitionOf(item, logs.length);
         Log log = logs[partition];
         if (log.end >= LOG_MOST) {
             throw new IllegalStateException("the log is full");
@@ -304,6 +304,15 @@ public final class ReadSide {
         }
     }
 
+    private static int partitionOf(int item, int partitions) {
+        return partitions > 0 ? item % partitions : 0;
+    }
+
+    /** Going around: behind the last one comes 0. */
+    private static int theNext(int index, int bound) {
+        return index + 1 < bound ? index + 1 : 0;
+    }
+
     private static long checkOf(long number) {
         return (number * CHECK_FACTOR) >>> CHECK_SHIFT;
     }
@@ -362,7 +371,7 @@ public final class ReadSide {
         }
         of.state.take(command);
         of.at[partition]++;
-        of.nextPartition = (partition + 1) % logs.length;
+        of.nextPartition = theNext(partition, logs.length);
         lookAtWaiting(replica);
         return TAKEN;
     }
@@ -381,18 +390,18 @@ public final class ReadSide {
             } else {
                 passedBy++;
             }
-            partition = (partition + 1) % logs.length;
+            partition = theNext(partition, logs.length);
         }
         return taken;
     }
 
     private int firstThatMay(Read read) {
-        int home = sessions[read.session].home;
-        for (int i = 0; i < replicas.length; i++) {
-            int replica = (home + i) % replicas.length;
+        int replica = sessions[read.session].home;
+        for (int tries = 0; tries < replicas.length; tries++) {
             if (mayAnswer(replicas[replica], read)) {
                 return replica;
             }
+            replica = theNext(replica, replicas.length);
         }
         return NO_REPLICA;
     }
@@ -683,7 +692,7 @@ public final class ReadSide {
         long worth(int partition, int partitions) {
             long worth = 0;
             for (int item = 0; item < ITEMS; item++) {
-                if (partition == ALL_PARTITIONS || item % partitions == partition) {
+                if (partition == ALL_PARTITIONS || partitionOf(item, partitions) == partition) {
                     worth += (long) stock[item] * price[item];
                 }
             }

@@ -1,8 +1,10 @@
 import java.lang.reflect.Field;
 import java.lang.reflect.Method;
 import java.lang.reflect.Modifier;
+import java.util.ArrayList;
 import java.util.Arrays;
 import java.util.List;
+import java.util.StringJoiner;
 import java.util.TreeSet;
 
 /** Promise 1, the constants, and the first rule of LANGUAGE.md: the face and nothing beside it. */
@@ -10,12 +12,22 @@ public final class NewObjectTest {
     private static final List<String> FACE = Arrays.asList("mode", "home", "command", "step", "speed", "ticks", "up",
         "snapshot", "crash", "trim", "ask", "read", "value", "at", "kept", "log", "logged", "session", "told", "count");
 
+    /** What a method declares to throw: i IndexOutOfBounds, a IllegalArgument, s IllegalState, in the document's order. */
+    private static final List<String> TYPES = Arrays.asList(
+        "int mode(int, int) ia", "int home(int, int) i", "long command(int, int, int, int, int) ias",
+        "int step(int, int) i", "int speed(int, int) ia", "int ticks(int) a", "boolean up(int, boolean) i",
+        "int snapshot(int) i", "int crash(int) i", "int trim() ", "int ask(int, long, int, int, int, int) ias",
+        "long read(int, int) i", "long value(int, int, int) i", "int at(int, int) i", "int kept(int, int) i",
+        "int log(int, int) i", "int logged(int, int, int) i", "int session(int, int, int) i",
+        "int told(long, int) ia", "int count(int) i");
+
     public static void main(String[] args) {
         sizesAreKept();
         otherNumbersAreTwo();
         allIsAtItsBeginning();
         constantsAreAsTold();
         faceIsAsTold();
+        typesAreAsTold();
         Check.end();
     }
 
@@ -95,5 +107,30 @@ public final class NewObjectTest {
         }
         Check.note(Modifier.isFinal(ReadSide.class.getModifiers()), "the class is not final");
         Check.same("constructors", ReadSide.class.getDeclaredConstructors().length, 1);
+    }
+
+    private static void typesAreAsTold() {
+        List<String> due = new ArrayList<>(TYPES);
+        for (Method method : ReadSide.class.getDeclaredMethods()) {
+            if (Modifier.isPublic(method.getModifiers())) {
+                Check.note(!Modifier.isStatic(method.getModifiers()), method + " is static");
+                Check.note(due.remove(typesOf(method)), "not in the document's face: " + typesOf(method));
+            }
+        }
+        Check.note(due.isEmpty(), "the face lacks " + due);
+    }
+
+    private static String typesOf(Method method) {
+        StringJoiner types = new StringJoiner(", ", method.getReturnType() + " " + method.getName() + "(", ") ");
+        for (Class<?> type : method.getParameterTypes()) {
+            types.add(type.getName());
+        }
+        StringBuilder text = new StringBuilder(types.toString());
+        for (Class<?> thrown : method.getExceptionTypes()) {
+            text.append(thrown == IndexOutOfBoundsException.class ? 'i'
+                : thrown == IllegalArgumentException.class ? 'a'
+                : thrown == IllegalStateException.class ? 's' : '?');
+        }
+        return text.toString();
     }
 }
